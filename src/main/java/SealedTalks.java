@@ -88,7 +88,14 @@ public final class SealedTalks {
         if (receiver.closed) {
             return CLOSED;
         }
-        return receiver.receive(messages, message) ? 1 : 0;
+        int found = receiver.agreement.isDone()
+                ? receiver.channel.acceptNext(messages, message)
+                : receiver.readNext(messages, message);
+        if (found == NO_TERM) {
+            return 0;
+        }
+        receiver.notePayload(terms.valueOf(found));
+        return 1;
     }
 
     public int splice(int a, int i, int b, int j) {
@@ -232,7 +239,7 @@ public final class SealedTalks {
         // A session makes at most one ephemeral key.
         private static final int KEY_LIMIT = STATIC_KEYS + SESSION_LIMIT;
         // 12 sessions leave at most 34 terms each, 60 messages of send and replace at most 4 each,
-        // and a reading that fails holds at most 14 until it drops them: 662 with number 0.
+        // and a reading that fails holds at most 14 until it drops them: some 664 in all.
         private static final int TERM_LIMIT = 720;
         private static final int BUCKETS = 128;
 
@@ -694,28 +701,8 @@ public final class SealedTalks {
             endAgreement();
         }
 
-        boolean receive(Messages messages, int message) {
-            int found = agreement.isDone()
-                    ? channel.acceptNext(messages, message) : readNext(messages, message);
-            if (found == NO_TERM) {
-                return false;
-            }
-            latestPayload = terms.valueOf(found);
-            payloadCount++;
-            return true;
-        }
-
-        /** Whether this tick closes the session. */
-        boolean passTick() {
-            if (closed) {
-                return false;
-            }
-            ticks++;
-            closed = ticks >= (agreement.isDone() ? TICKS_DONE : TICKS_UNDONE);
-            return closed;
-        }
-
-        private int readNext(Messages messages, int message) {
+        /** The NUM of the payload, or NO_TERM if the message can't be read. */
+        int readNext(Messages messages, int message) {
             if (agreement.isOwnTurn()) {
                 return NO_TERM;
             }
@@ -729,6 +716,21 @@ public final class SealedTalks {
             agreement.copyFrom(draft);
             endAgreement();
             return found;
+        }
+
+        void notePayload(int payload) {
+            latestPayload = payload;
+            payloadCount++;
+        }
+
+        /** Whether this tick closes the session. */
+        boolean passTick() {
+            if (closed) {
+                return false;
+            }
+            ticks++;
+            closed = ticks >= (agreement.isDone() ? TICKS_DONE : TICKS_UNDONE);
+            return closed;
         }
 
         private void endAgreement() {

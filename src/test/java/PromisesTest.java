@@ -24,6 +24,7 @@ public final class PromisesTest {
         deliverBareFirstMessage();
         deliverWindow();
         deliverTransportSpoiled();
+        deliverManyInVain();
         deliverMixedTalks();
         splice();
         replace();
@@ -281,16 +282,20 @@ public final class PromisesTest {
         x.start(0, false, 2, 0, 7);
         x.write(0, 11);
         due("to the writer", x.deliver(0, 0), 0);
+        due("to one whose own message is next", x.deliver(0, x.start(0, true, 3, 0, 7)), 0);
+        due("no step of it", x.steps(2), 0);
         due("first", x.deliver(0, 1), 1);
         due("read before", x.deliver(0, 1), 0);
         x.write(1, 22);
         due("to the writer", x.deliver(1, 1), 0);
+        due("three parts for two", x.deliver(x.replace(1, 1, 5), x.start(0, false, 3, 0, 7)), 0);
+        due("no step of it", x.steps(3), 0);
         due("second", x.deliver(1, 0), 1);
         due("read before", x.deliver(1, 0), 0);
         x.write(0, 33);
-        due("to the writer, who is done", x.deliver(2, 0), 0);
-        due("third", x.deliver(2, 1), 1);
-        due("read before", x.deliver(2, 1), 0);
+        due("to the writer, who is done", x.deliver(3, 0), 0);
+        due("third", x.deliver(3, 1), 1);
+        due("read before", x.deliver(3, 1), 0);
         due("a message of the pattern to a done one", x.deliver(0, 1), 0);
         due("a message of the pattern to a done one", x.deliver(1, 0), 0);
         due("match", x.match(0, 1), true);
@@ -396,6 +401,7 @@ public final class PromisesTest {
         due("TOP - 7 again", x.deliver(2 + 12, 1), 0);
         due("TOP again", x.deliver(2 + 19, 1), 0);
         due("payload", x.payload(1), 112);
+        due("TOP stays", x.deliver(2 + 11, 1), 0);
         due("TOP - 1", x.deliver(2 + 18, 1), 1);
         due("counter 0", x.deliver(2, 1), 0);
         due("accepted", x.accepted(1), 4);
@@ -431,6 +437,33 @@ public final class PromisesTest {
         due("counter of 3 with the seal of 3", x.deliver(x.splice(x.replace(3, 0, 9), 0, 3, 0), 1), 1);
         due("counter 0", x.deliver(x.replace(2, 0, 0), 1), 1);
         due("counter 0 again", x.deliver(2, 1), 0);
+        x.send(0, 103);
+        int sent = x.send(0, 104);
+        int longer = x.splice(x.splice(0, 0, sent, 0), 1, sent, 1);
+        due("three parts", x.deliver(longer, 1), 0);
+        due("two parts", x.deliver(sent, 1), 1);
+    }
+
+    /** Each of 11 sessions reads in vain what starts with each of 12 ephemeral keys. */
+    private static void deliverManyInVain() {
+        CHECK.about("promise 5, many in vain");
+        SealedTalks x = new SealedTalks();
+        x.start(0, true, 1, 0, 0);
+        x.write(0, 0);
+        for (int i = 1; i < 12; i++) {
+            x.start(1, true, 1 + i % 8, 1 + i % 7, i);
+            x.write(i, i);
+            due("splice", x.splice(0, 0, 2 * i - 1, 0), 2 * i);
+        }
+        for (int message = 0; message <= 22; message += 2) {
+            for (int i = 1; i < 12; i++) {
+                due("in vain", x.deliver(message, i), 0);
+            }
+        }
+        due("replace", x.replace(0, 1, 12345), 23);
+        due("a new NUM", x.shown(23, 1), 12345);
+        due("a new NUM", x.sees(23, 1), 1);
+        due("the same NUM", x.same(23, 1, x.replace(0, 0, 12345), 0), true);
     }
 
     private static void deliverMixedTalks() {
