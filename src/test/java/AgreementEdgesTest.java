@@ -21,6 +21,7 @@ public final class AgreementEdgesTest {
                 partsWritten(pattern, step);
                 partsRead(pattern, step);
                 wrongKinds(pattern, step);
+                partsInDisorder(pattern, step);
                 partsOfAnotherTalk(pattern, step);
                 readOnce(pattern, step);
                 otherMessages(pattern, step);
@@ -211,37 +212,38 @@ public final class AgreementEdgesTest {
         readsOn(x, pattern, step);
     }
 
-    /** Another talk of the same ends, keys and payloads differs by its ephemeral keys alone. */
-    private static void partsOfAnotherTalk(int pattern, int step) {
-        CHECK.about("the part must be a SEAL of just k, n, h; pattern " + pattern + ", step " + step);
+    private static void partsInDisorder(int pattern, int step) {
+        CHECK.about("the part must be a SEAL of just k, n, h: in its place; pattern " + pattern + ", step " + step);
         Talks x = written(pattern, step);
-        Talks y = new Talks(CHECK);
         int parts = Scenes.partsOf(pattern, step);
-        Scenes.talk(y, pattern, step);
-        y.start(pattern, true, 1, 2, 7);
-        y.start(pattern, false, 2, 0, 7);
-        for (int s = 0; s < step; s++) {
-            y.deliver(y.write(2 + s % 2, 100 + s), 3 - s % 2);
-        }
-        int one = y.write(step % 2, 100 + step);
-        int other = y.write(2 + step % 2, 100 + step);
-        int reader = 1 - step % 2;
         for (int part = 0; part < parts; part++) {
             for (int j = 0; j < parts; j++) {
-                boolean alike = pattern == 0 && step == 0 && part == j;
-                if (!alike) {
-                    y.due(y.deliver(y.splice(one, part, other, j), reader), 0);
-                }
                 if (part != j) {
-                    x.due(x.deliver(x.splice(step, part, step, j), reader), 0);
+                    x.due(x.deliver(x.splice(step, part, step, j), 1 - step % 2), 0);
                 }
             }
         }
-        if (pattern != 0 || step != 0) {
-            y.due(y.deliver(other, reader), step == 0 ? 1 : 0);
-        }
-        y.due(y.deliver(one, step == 0 && pattern == 1 ? 3 : reader), 1);
         unread(x, pattern, step);
+        readsOn(x, pattern, step);
+    }
+
+    /** Another talk of the same ends, keys and payloads differs by its ephemeral keys alone. */
+    private static void partsOfAnotherTalk(int pattern, int step) {
+        CHECK.about("the part must be a SEAL of just k, n, h: of this talk; pattern " + pattern + ", step " + step);
+        Talks x = written(pattern, step);
+        x.start(pattern, true, 1, 2, 7);
+        x.start(pattern, false, 2, 0, 7);
+        for (int s = 0; s < step; s++) {
+            x.deliver(x.write(2 + s % 2, 100 + s), 3 - s % 2);
+        }
+        int other = x.write(2 + step % 2, 100 + step);
+        boolean allBare = pattern == 0 && step == 0;
+        for (int part = 0; part < Scenes.partsOf(pattern, step) && !allBare; part++) {
+            x.due(x.deliver(x.splice(step, part, other, part), 1 - step % 2), 0);
+            x.due(x.deliver(x.splice(other, part, step, part), 1 - step % 2), 0);
+        }
+        unread(x, pattern, step);
+        x.due(x.deliver(other, 3 - step % 2), 1);
         readsOn(x, pattern, step);
     }
 

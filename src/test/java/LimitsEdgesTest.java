@@ -249,23 +249,22 @@ public final class LimitsEdgesTest {
         x.due(Scenes.ticks(x, 6), 1);
     }
 
+    /** Readings in vain, each with terms of its own, may not use up what the last calls need. */
     private static void lastCall() {
         CHECK.about("An object is used for at most 512 calls");
         Talks x = Scenes.agreed(CHECK, 1);
-        for (int i = 2; i < 12; i++) {
-            x.start(i % 2, false, i % 8 + 1, 0, i);
+        for (int i = 2; i < 11; i++) {
+            x.start(1, true, 1 + i % 8, 4, i);
+            x.write(i, i);
+            x.due(x.splice(1, 0, 2 * i - 2, 0), 2 * i - 1);
         }
-        x.start(0, true, 1, 0, 0);
-        int sent = x.send(0, 31);
-        for (int part = 0; part < 3; part++) {
-            x.replace(0, part, part);
+        x.start(1, false, 4, 0, 2);
+        for (int i = 0; x.told().size() < Talks.CALL_LIMIT - 3; i++) {
+            x.due(x.deliver(3 + 2 * (i % 9), 2 + i / 9 % 9), 0);
         }
-        // Deliveries in vain: none of them may use up what the last one needs.
-        for (int i = x.told().size(); i < Talks.CALL_LIMIT - 2; i++) {
-            x.due(x.deliver(i % 2, 2 + i % 10), 0);
-        }
-        x.due(x.deliver(sent, 1), 1);
-        x.due(x.payload(1), 31);
+        x.due(x.deliver(2, 11), 1);
+        x.due(x.write(11, 5), 20);
+        x.due(x.deliver(20, 2), 1);
         CHECK.due("calls", x.told().size(), Talks.CALL_LIMIT);
     }
 
