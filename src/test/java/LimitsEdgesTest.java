@@ -23,6 +23,8 @@ public final class LimitsEdgesTest {
         fullStillDelivers();
         lastCall();
         mostTerms();
+        fullestTalks();
+        fullestTalksBehindReadingsInVain();
         CHECK.end();
     }
 
@@ -268,7 +270,7 @@ public final class LimitsEdgesTest {
         CHECK.due("calls", x.told().size(), Talks.CALL_LIMIT);
     }
 
-    /** Sessions that share as little as can be, and messages of which none is like another. */
+    /** Six talks to their end, and messages of which none is like another. */
     private static void mostTerms() {
         CHECK.about("12 sessions and 60 messages of their own terms");
         Talks x = new Talks(CHECK);
@@ -300,5 +302,74 @@ public final class LimitsEdgesTest {
         for (int i = 18; i < 60; i++) {
             x.due(x.shown(i, 1), 3000 + i);
         }
+    }
+
+    /**
+     * Eleven responders have read the same first message and answered it, as messages 1 .. 11, each
+     * with a prologue of its own, so that they share few terms. Session 0 can read message 1 alone;
+     * the others it reads in vain, each with terms that no other reading has.
+     */
+    private static Talks answeredByEleven() {
+        Talks x = new Talks(CHECK);
+        x.due(x.start(0, true, 1, 0, 501), 0);
+        for (int i = 1; i < 12; i++) {
+            x.due(x.start(0, false, 1 + i % 8, 0, 500 + i), i);
+        }
+        x.due(x.write(0, 1000), 0);
+        for (int i = 1; i < 12; i++) {
+            x.due(x.deliver(0, i), 1);
+            x.due(x.write(i, 2000 + i), i);
+        }
+        return x;
+    }
+
+    /** Sessions 0 and 1 agree, and session 0 sends until there are 60 messages. */
+    private static void agreeAndSendTheRest(Talks x) {
+        x.due(x.deliver(1, 0), 1);
+        x.due(x.write(0, 3000), 12);
+        x.due(x.deliver(12, 1), 1);
+        for (int i = 13; i < 60; i++) {
+            x.due(x.send(0, 4000 + i), i);
+        }
+    }
+
+    private static void fullestTalks() {
+        CHECK.about("12 sessions and 60 messages that share few terms");
+        Talks x = answeredByEleven();
+        agreeAndSendTheRest(x);
+        for (int i = 13; i < 60; i++) {
+            x.due(x.shown(i, 0), i - 13);
+            x.due(x.deliver(i, 1), 1);
+            x.due(x.payload(1), 4000 + i);
+        }
+        for (int i = 2; i < 12; i++) {
+            x.due(x.deliver(12, i), 0);
+        }
+        for (int key = 10; key <= 20; key++) {
+            x.due(x.give(key), true);
+        }
+        x.due(x.give(2), true);
+        for (int i = 1; i < 12; i++) {
+            x.due(x.shown(i, 1), 1 + i % 8);
+            x.due(x.shown(i, 2), i % 8 == 1 ? 2000 + i : 0);
+        }
+        for (int i = 13; i < 60; i++) {
+            x.due(x.shown(i, 1), 4000 + i);
+        }
+    }
+
+    private static void fullestTalksBehindReadingsInVain() {
+        CHECK.about("0 if not (nothing changes then): as many readings in vain as 512 calls leave room for");
+        Talks x = answeredByEleven();
+        int callsBehind = 3 + 47 + 4;
+        for (int i = 0; x.told().size() < Talks.CALL_LIMIT - callsBehind; i++) {
+            x.due(x.deliver(2 + i % 10, 0), 0);
+        }
+        agreeAndSendTheRest(x);
+        x.due(x.sees(59, 1), 4);
+        x.due(x.deliver(59, 1), 1);
+        x.due(x.payload(1), 4059);
+        x.due(x.match(0, 1), true);
+        CHECK.due("calls", x.told().size(), Talks.CALL_LIMIT);
     }
 }
